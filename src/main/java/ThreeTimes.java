@@ -728,7 +728,8 @@ public final class ThreeTimes {
         }
 
         private int placeOf(int i, int column) {
-            return has(i) && column >= 0 && column < columns ? i * columns + column : -1;
+            boolean isThere = i >= 0 && i < size && column >= 0 && column < columns;
+            return isThere ? i * columns + column : -1;
         }
 
         private int read(int i, int column) {
@@ -855,6 +856,7 @@ public final class ThreeTimes {
                     return allIfHeld((holds + word) / 2);
                 case FEARED:
                     return box == 1 ? allByLot() : Math.min(allByLot(), coins / 2);
+                case SENDING:
                 default:
                     return Math.min(figure, coins);
             }
@@ -916,7 +918,6 @@ public final class ThreeTimes {
 
         private void faceOneWhoKeepsAll() {
             box = 0;
-            share = 0;
             word = 0;
             // Something came and nothing went back: only so is the name 0 and not missing.
             everCame = 1;
@@ -1037,6 +1038,7 @@ public final class ThreeTimes {
                     return reckoned + 7;
                 case FEARED:
                     return lotted - figure;
+                case SENDING:
                 default:
                     return sending;
             }
@@ -1107,7 +1109,7 @@ public final class ThreeTimes {
         }
 
         private boolean takesDigit(Shelf text, int i) {
-            int digit = digitHere(text);
+            int digit = digitOf(text.read(at));
             if (digit < 0) {
                 return false;
             }
@@ -1124,8 +1126,8 @@ public final class ThreeTimes {
             int number = 0;
             int digits = 0;
             // A 0 ends its number: a digit behind it is left for the next part, which does not take it.
-            while (digits < 3 && digitHere(text) >= 0 && (digits == 0 || number > 0)) {
-                number = 10 * number + digitHere(text);
+            while (digits < 3 && digitOf(text.read(at)) >= 0 && (digits == 0 || number > 0)) {
+                number = 10 * number + digitOf(text.read(at));
                 digits++;
                 at++;
             }
@@ -1133,8 +1135,7 @@ public final class ThreeTimes {
             return digits > 0;
         }
 
-        private int digitHere(Shelf text) {
-            int sign = text.read(at);
+        private static int digitOf(int sign) {
             return sign >= '0' && sign <= '9' ? sign - '0' : -1;
         }
     }

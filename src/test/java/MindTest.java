@@ -4,6 +4,9 @@ public final class MindTest {
     // From z 1 the next draw below 100 is 38; from these it is 0 and 99.
     private static final int Z_OF_0 = 132;
     private static final int Z_OF_99 = 194;
+    private static final int Z_TO_EDGE = -1063803261;
+    private static final int Z_TO_EDGE_BELOW_0 = 1083680387;
+    private static final int Z_BELOW_EDGE = -773997794;
 
     private static final Check CHECK = new Check();
 
@@ -75,6 +78,10 @@ public final class MindTest {
         // A draw from a z below 0: 15.
         sends("s5 3 0;m0;", 662824084, 0);
         sends("s5 4 0;m0;", 662824084, 10);
+        // The next z is 16800 times 65536 (a draw of 0), with its sign's bit too, and 1 less (a draw of 99).
+        sends("s5 1 0;m0;", Z_TO_EDGE, 10);
+        sends("s5 1 0;m0;", Z_TO_EDGE_BELOW_0, 10);
+        sends("s5 19 0;m0;", Z_BELOW_EDGE, 0);
     }
 
     private static void sendingsByPast() {
@@ -181,6 +188,11 @@ public final class MindTest {
         x.set(2, Z_OF_99);
         CHECK.due("LOTTED, draw 99", x.giving(5), 0);
         CHECK.due("FEARED, draw 99", x.giving(7), 0);
+        x.set(2, 1);
+        x.sends(7, 0);
+        CHECK.due("FEARED, asked before a box ahead of it", x.giving(7), 5);
+        x.sends(6, 0);
+        CHECK.due("PROMISED, asked before a WORD ahead of it", x.giving(6), 0);
         CHECK.due("giving(8)", x.giving(8), -1);
         CHECK.due("giving(-1)", x.giving(-1), -1);
     }
@@ -200,6 +212,9 @@ public final class MindTest {
         best(x, 4, 10, 30);
         best(x, 5, 0, 10);
         best(x, 6, 10, 12);
+        x.set(0, 1);
+        best(x, 2, 0, 1);
+        best(x, 3, 1, 3);
         x.set(0, 9);
         // 40 hundredths of 18 are 7, of 27 they are 10: 6 and 9 coins bring 10, as 7 and 8 do.
         best(x, 6, 6, 10);
@@ -238,6 +253,10 @@ public final class MindTest {
         CHECK.due("TESTED, 1 comes back each time", x.worth(3, 0, 20), 37);
         // 40 hundredths of 3 are 1: 2 are kept of each; with SHARE 0 the first 3 alone.
         CHECK.due("TESTED", x.worth(3, 2, 4), 5);
+        ThreeTimes most = Check.with("c20;t5;s0 20 0;m50;x50;");
+        CHECK.due("the most that can come, a man", most.worth(0, 0, 1), -50);
+        most.set(2, Z_OF_0);
+        CHECK.due("the most that can come, a box, draw 0", most.worth(0, 1, 1), -100);
         CHECK.due("worth(0, 0, 0)", x.worth(0, 0, 0), FAR - 1);
         CHECK.due("worth(0, 0, 21)", x.worth(0, 0, 21), FAR - 1);
         CHECK.due("worth(4, 0, 1)", x.worth(4, 0, 1), FAR - 1);
@@ -264,6 +283,8 @@ public final class MindTest {
         CHECK.due("WORD 0", x.promise(0, 0, 0), 0);
         CHECK.due("no word needed", x.promise(1, 0, 100), 0);
         CHECK.due("WORD 68", x.promise(2, 0, 68), 10);
+        x.holds(1, 67);
+        CHECK.due("WORD 1", x.promise(1, 0, 1), 10);
         CHECK.due("RECKONED", x.promise(3, 0, 100), 0);
         CHECK.due("LOTTED, the same z", x.promise(4, 0, 100), 0);
         CHECK.due("WORD 101", x.promise(0, 0, 101), FAR - 1);

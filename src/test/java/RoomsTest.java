@@ -52,6 +52,14 @@ public final class RoomsTest {
         CHECK.due("the row stays", x.element(7, 0), 'c');
         CHECK.due("room again", x.room(7), 3);
 
+        // What a statement leaves out is 0, whatever stood there in a text ahead of it.
+        text(x, "m40l3v50w90;x1w2;", 2);
+        text(x, "x10;m7;", 2);
+        for (int what = 2; what <= 4; what++) {
+            CHECK.due("returner(4, " + what + ")", x.returner(4, what), 0);
+            CHECK.due("returner(5, " + what + ")", x.returner(5, what), 0);
+        }
+
         StringBuilder longest = new StringBuilder();
         for (int i = 0; i < 32; i++) {
             longest.append("t1;");
@@ -231,6 +239,9 @@ public final class RoomsTest {
         CHECK.due("NAME, 10 of 21", x.returner(0, 5), 47);
         x.pair(0, 0, false);
         CHECK.due("NAME, 10 of 21", x.returner(0, 5), 47);
+        x = Check.with("t1;s0 1 0;m100;");
+        x.pair(0, 0, false);
+        CHECK.due("NAME, 1 of 1", x.returner(0, 5), 100);
     }
 
     private static void settings() {

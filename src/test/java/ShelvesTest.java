@@ -64,6 +64,9 @@ public final class ShelvesTest {
         CHECK.due("it stays", x.element(0, 99), 5);
         CHECK.due("row(0, 2, 100)", x.row(0, 2, 100), 0);
         CHECK.due("0 at first", x.element(0, 99), 0);
+        x.put(0, 0, 7);
+        x.row(0, 2, 1);
+        CHECK.due("0 at first again", x.element(0, 0), 0);
         CHECK.due("row(0, 1, 0)", x.row(0, 1, 0), 0);
         CHECK.due("no place", x.put(0, 0, 1), -13);
         x.keep(1, 1, 0);
