@@ -472,6 +472,7 @@ public final class ThreeTimes {
             return NO_SUCH;
         }
         shelf.held = A_SENDER;
+        shelf.number = k;
         shelf.kind = game.senders.read(k, KIND);
         shelf.figure = game.senders.read(k, FIGURE);
         shelf.holds = game.senders.read(k, HOLDS);
@@ -559,11 +560,11 @@ public final class ThreeTimes {
             shelf.throwFailure();
             return NO_FAILURE;
         } catch (IllegalArgumentException named) {
-            return shelf.kind + 100;
+            return shelf.number + 100;
         } catch (UnsupportedOperationException feared) {
             return 200 + shelf.faithOfSender();
         } catch (IllegalStateException other) {
-            return shelf.kind;
+            return shelf.number;
         }
     }
 
@@ -929,6 +930,8 @@ public final class ThreeTimes {
     /** Holds nothing, a sender as it was when it was kept, or a row. */
     private static final class Shelf {
         private int held = NOTHING;
+        /** The sender's place among the senders when it was kept; a restored image leaves it as it is. */
+        private int number;
         private int kind;
         private int figure;
         private int holds;

@@ -16,6 +16,7 @@ public final class ShelvesTest {
         copyingRefused();
         faiths();
         tosses();
+        tossesOfSendersKept();
         CHECK.end();
     }
 
@@ -193,13 +194,17 @@ public final class ShelvesTest {
 
     private static void tosses() {
         CHECK.about("promise 34");
-        // The kinds in another order than the senders' numbers.
+        // The kinds in another order than the senders' numbers: a number is the sender's, not its kind's.
         int[] kinds = {7, 6, 5, 4, 3, 2, 1, 0};
-        int[] want = {204, 6, 5, 104, 3, -15, 1, 0};
+        int[] want = {204, 1, 2, 103, 4, -15, 6, 7};
         ThreeTimes x = Check.with("s7 1 9;s6 1 9;s5 1 9;s4 1 9;s3 1 9;s2 1 9;s1 1 9;s0 1 9;");
         for (int s = 0; s < kinds.length; s++) {
             x.keep(s, 1, s);
             CHECK.due("toss of kind " + kinds[s], x.toss(s), want[s]);
+        }
+        for (int s = 0; s < kinds.length; s++) {
+            x.keep(7 - s, 1, s);
+            CHECK.due("toss of kind " + kinds[s] + " by another shelf", x.toss(7 - s), want[s]);
         }
         x = Check.with("s7 0 9;s6 0 9;s5 0 9;s4 0 9;s3 0 9;s2 0 9;s1 0 9;s0 0 9;");
         for (int s = 0; s < kinds.length; s++) {
@@ -212,5 +217,24 @@ public final class ShelvesTest {
         CHECK.due("toss of nothing", x.toss(1), -11);
         CHECK.due("toss(8)", x.toss(8), -1);
         CHECK.due("toss(-1)", x.toss(-1), -1);
+    }
+
+    private static void tossesOfSendersKept() {
+        CHECK.about("promise 34, numbers as they were kept");
+        ThreeTimes x = Check.with("s3 7 30;s3 7 30;s3 7 30;");
+        x.image();
+        Check.read(x, "s0 5 0;s4 20 100;s7 20 100;");
+        x.keep(0, 1, 3);
+        x.keep(1, 1, 4);
+        x.keep(2, 1, 5);
+        x.keep(3, 1, 2);
+        x.restore();
+        CHECK.due("toss of a sender that is gone", x.toss(0), 3);
+        CHECK.due("toss of a NAMED one that is gone", x.toss(1), 104);
+        CHECK.due("toss of a FEARED one that is gone", x.toss(2), 185);
+        CHECK.due("toss of one of three alike", x.toss(3), 2);
+        CHECK.due("toss again", x.toss(3), 2);
+        x.keep(3, 1, 0);
+        CHECK.due("toss of another of them", x.toss(3), 0);
     }
 }
