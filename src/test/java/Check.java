@@ -9,7 +9,11 @@ final class Check {
     }
 
     void due(String call, long got, long want) {
-        if (got != want) {
+        due(call, String.valueOf(got), String.valueOf(want));
+    }
+
+    void due(String call, String got, String want) {
+        if (!got.equals(want)) {
             wrong++;
             System.out.println(about + ": " + call + " answered " + got + ", due is " + want);
         }
