@@ -10,6 +10,7 @@ public final class CallEdgesTest {
     private static final Check CHECK = new Check();
 
     public static void main(String[] args) {
+        lastCall();
         newObject();
         rooms();
         sendersAndReturners();
@@ -64,9 +65,18 @@ public final class CallEdgesTest {
         return run.due("keep(1, 1, 0)", 0).fill(2, 0, 1, 2, 3).fill(3, 1, 1, 2, 3).fill(4, 2, 1, 2, 3);
     }
 
+    private static void lastCall() {
+        CHECK.about("An object is used for at most 512 calls after it has been made");
+        Run run = new Run(CHECK);
+        for (int call = 1; call <= 512; call++) {
+            run.due("set(2, " + (call + 1) + ")", call);
+        }
+    }
+
     private static void newObject() {
         CHECK.about("promise 1: No SENDERS, no RETURNERS");
-        new Run(CHECK).each("count(#)", "0 1 2 3 4", 0).each("sender(#, 0)", "0 7", -1).each("returner(#, 0)", "0 7", -1)
+        new Run(CHECK).each("count(#)", "0 1 2 3 4", 0).each("sender(#, 0)", "0 7", -1)
+            .each("returner(#, 0)", "0 7", -1)
             .due("pair(0, 0, false)", -1).due("sends(0, 0)", -1).due("back(0, 0, false)", -1).due("giving(0)", -1)
             .due("best(0, 0)", -1).due("holds(0, 0)", -1).due("keep(0, 1, 0)", -1).due("all()", -3).due("of(0, 0)", -4);
     }
@@ -156,8 +166,8 @@ public final class CallEdgesTest {
     }
 
     private static void pairsTold() {
-        about("promise 9: of: -1; -4: not so many").each("of(#, 0)", "0 1 99 100 MAX", -4).each("of(#, 0)", "-1 MIN", -1)
-            .due("pair(1, 0, true)", 10).due("of(0, 0)", 1).due("of(0, 1)", 0).due("of(0, 2)", 10).due("of(0, 3)", 30)
+        about("promise 9: of: -1; -4: not so many").each("of(#, 0)", "0 1 99 100 MAX", -4)
+            .each("of(#, 0)", "-1 MIN", -1).due("pair(1, 0, true)", 10).due("of(0, 0)", 1).due("of(0, 1)", 0).due("of(0, 2)", 10).due("of(0, 3)", 30)
             .due("of(0, 4)", 21).due("of(0, 5)", 1).each("of(0, #)", "-1 6 MIN MAX", -1).each("of(1, #)", "-1 6", -1)
             .each("of(1, #)", "0 5", -4).each("of(#, 0)", "-1 MIN", -1).each("of(#, 0)", "1 99 100 MAX", -4);
     }
@@ -178,14 +188,14 @@ public final class CallEdgesTest {
     }
 
     private static void sendings() {
-        about("promise 13: sends: (z stays). -1", "s5 8 0;s0 5 0;x50;m50;").due("sends(0, 0)", 10).due("sends(0, 0)", 10)
-            .due("sends(1, 1)", 5).each("sends(#, 0)", NOT_OF_TWO, -1).each("sends(0, #)", NOT_OF_TWO, -1)
+        about("promise 13: sends: (z stays). -1", "s5 8 0;s0 5 0;x50;m50;").due("sends(0, 0)", 10)
+            .due("sends(0, 0)", 10).due("sends(1, 1)", 5).each("sends(#, 0)", NOT_OF_TWO, -1).each("sends(0, #)", NOT_OF_TWO, -1)
             .due("set(2, 1)", 1).due("count(2)", 0);
     }
 
     private static void backs() {
-        about("promise 14: back: of n coins SENT (0 .. COINS) by a RETURNER now (z stays). -1").due("back(0, 0, true)", 0)
-            .due("back(0, 1, true)", 0).due("back(0, 2, false)", 3).due("back(0, 10, false)", 15)
+        about("promise 14: back: of n coins SENT (0 .. COINS) by a RETURNER now (z stays). -1")
+            .due("back(0, 0, true)", 0).due("back(0, 1, true)", 0).due("back(0, 2, false)", 3).due("back(0, 10, false)", 15)
             .due("back(0, 10, true)", 21).due("back(1, 10, true)", 30).each("back(0, #, false)", "-1 11 MIN MAX", -1)
             .each("back(#, 0, false)", NOT_OF_TWO, -1).due("set(2, 1)", 1).due("set(0, 20)", 10)
             .due("back(0, 20, false)", 30).due("back(0, 21, false)", -1).due("set(0, 1)", 20)
@@ -277,8 +287,8 @@ public final class CallEdgesTest {
     private static void rows() {
         about("promise 29: row: 0. -1 (n above 100); -14").each("row(0, 0, #)", "101 MAX", -1)
             .each("row(0, 2, #)", "-1 MIN", -14).each("row(0, #, 1)", "-1 3 MIN MAX", -1)
-            .each("row(#, 0, 1)", NO_NUMBERS, -1).each("row(0, #, -1)", "-1 3", -1).each("row(#, 0, -1)", NO_NUMBERS, -1)
-            .due("judge(0)", -11).each("row(0, 1, #)", "0 100", 0).due("put(0, 99, 5)", 0).due("row(0, 1, -1)", -14)
+            .each("row(#, 0, 1)", NO_NUMBERS, -1).each("row(0, #, -1)", "-1 3", -1)
+            .each("row(#, 0, -1)", NO_NUMBERS, -1).due("judge(0)", -11).each("row(0, 1, #)", "0 100", 0).due("put(0, 99, 5)", 0).due("row(0, 1, -1)", -14)
             .due("row(0, 1, 101)", -1).due("element(0, 99)", 5).due("keep(7, 1, 0)", 0).due("row(7, 2, -1)", -14)
             .due("faith(7)", 10).due("row(7, 2, 0)", 0).due("faith(7)", FAR - 12);
     }
@@ -316,7 +326,8 @@ public final class CallEdgesTest {
     private static void copiesOfPlaces() {
         String sentence = "promise 32: copy: -13 a place that isn't there (a size that isn't as told, too)";
         Run run = about(sentence).fill(2, 0, 1, 2, 3).fill(3, 0, 4, 5);
-        run.each("copy(2, #, 3, 0, 1)", "-1 3 4 100 MIN MAX", -13).each("copy(3, 0, 2, #, 1)", "-1 3 4 100 MIN MAX", -13)
+        run.each("copy(2, #, 3, 0, 1)", "-1 3 4 100 MIN MAX", -13)
+            .each("copy(3, 0, 2, #, 1)", "-1 3 4 100 MIN MAX", -13)
             .each("copy(2, 0, 3, 0, #)", "-1 3 4 101 MIN MAX", -13).each("copy(3, 0, 2, 0, #)", "-1 3 MIN MAX", -13)
             .each("copy(2, #, 3, 0, 0)", "-1 4 MAX", -13).each("copy(3, 0, 2, #, 0)", "-1 4 MIN", -13)
             .due("copy(2, 2, 3, 0, 2)", -13).due("copy(3, 0, 2, 2, 2)", -13).due("copy(2, 1, 3, 1, MAX)", -13)
@@ -345,7 +356,8 @@ public final class CallEdgesTest {
         shelves(about("promise 34: toss: its number; .. -1, -11, -12 (a ROW)")).due("toss(1)", 0)
             .each("toss(#)", NO_NUMBERS, -1).each("toss(#)", "0 7", -11).each("toss(#)", "2 3 4", -12)
             .due("keep(1, 1, 1)", 0).due("toss(1)", 101);
-        Run run = about("promise 34: toss: of NAMED ones 100 more", "s4 1 0;s0 1 0;s0 1 0;s0 1 0;s0 1 0;s0 1 0;s0 1 0;s4 20 0;");
+        Run run = about("promise 34: toss: of NAMED ones 100 more",
+            "s4 1 0;s0 1 0;s0 1 0;s0 1 0;s0 1 0;s0 1 0;s0 1 0;s4 20 0;");
         run.due("keep(0, 1, 0)", 0).due("toss(0)", 100).due("keep(0, 1, 7)", 0).due("toss(0)", 107)
             .due("keep(0, 1, 6)", 0).due("toss(0)", 6);
         run = about("promise 34: toss: of FEARED ones 200 plus their FAITH, in place of all that (its number, too)",

@@ -144,7 +144,8 @@ public final class MindEdgesTest {
     }
 
     private static void bestByBoxes() {
-        Run run = about("To a BOX: by what it has in the mean, likewise (of a BOX times 100)", "x0;x33;x34;x100;x0v100;");
+        Run run = about("To a BOX: by what it has in the mean, likewise (of a BOX times 100)",
+            "x0;x33;x34;x100;x0v100;");
         best(run, 0, 0, 1000);
         best(run, 1, 0, 1000);
         best(run, 2, 10, 1020);
@@ -357,7 +358,8 @@ public final class MindEdgesTest {
     private static void sumsOfNone() {
         Run run = about("SUMS over PAIRS: over none", "s0 0 0;s0 5 0;m50;m0;").due("pair(0, 0, false)", 0);
         for (int what = 0; what < 3; what++) {
-            run.due("sumSent(1, " + what + ")", 0).due("sumCame(1, " + what + ")", 0).due("sumCame(0, " + what + ")", 0);
+            run.due("sumSent(1, " + what + ")", 0).due("sumCame(1, " + what + ")", 0)
+                .due("sumCame(0, " + what + ")", 0);
         }
         run.due("sumSent(0, 0)", 0).due("sumSent(0, 1)", 0).due("sumSent(0, 2)", 10);
     }
