@@ -167,7 +167,8 @@ public final class CallEdgesTest {
 
     private static void pairsTold() {
         about("promise 9: of: -1; -4: not so many").each("of(#, 0)", "0 1 99 100 MAX", -4)
-            .each("of(#, 0)", "-1 MIN", -1).due("pair(1, 0, true)", 10).due("of(0, 0)", 1).due("of(0, 1)", 0).due("of(0, 2)", 10).due("of(0, 3)", 30)
+            .each("of(#, 0)", "-1 MIN", -1).due("pair(1, 0, true)", 10).due("of(0, 0)", 1).due("of(0, 1)", 0)
+            .due("of(0, 2)", 10).due("of(0, 3)", 30)
             .due("of(0, 4)", 21).due("of(0, 5)", 1).each("of(0, #)", "-1 6 MIN MAX", -1).each("of(1, #)", "-1 6", -1)
             .each("of(1, #)", "0 5", -4).each("of(#, 0)", "-1 MIN", -1).each("of(#, 0)", "1 99 100 MAX", -4);
     }
@@ -189,13 +190,15 @@ public final class CallEdgesTest {
 
     private static void sendings() {
         about("promise 13: sends: (z stays). -1", "s5 8 0;s0 5 0;x50;m50;").due("sends(0, 0)", 10)
-            .due("sends(0, 0)", 10).due("sends(1, 1)", 5).each("sends(#, 0)", NOT_OF_TWO, -1).each("sends(0, #)", NOT_OF_TWO, -1)
+            .due("sends(0, 0)", 10).due("sends(1, 1)", 5).each("sends(#, 0)", NOT_OF_TWO, -1)
+            .each("sends(0, #)", NOT_OF_TWO, -1)
             .due("set(2, 1)", 1).due("count(2)", 0);
     }
 
     private static void backs() {
         about("promise 14: back: of n coins SENT (0 .. COINS) by a RETURNER now (z stays). -1")
-            .due("back(0, 0, true)", 0).due("back(0, 1, true)", 0).due("back(0, 2, false)", 3).due("back(0, 10, false)", 15)
+            .due("back(0, 0, true)", 0).due("back(0, 1, true)", 0).due("back(0, 2, false)", 3)
+            .due("back(0, 10, false)", 15)
             .due("back(0, 10, true)", 21).due("back(1, 10, true)", 30).each("back(0, #, false)", "-1 11 MIN MAX", -1)
             .each("back(#, 0, false)", NOT_OF_TWO, -1).due("set(2, 1)", 1).due("set(0, 20)", 10)
             .due("back(0, 20, false)", 30).due("back(0, 21, false)", -1).due("set(0, 1)", 20)
@@ -288,7 +291,8 @@ public final class CallEdgesTest {
         about("promise 29: row: 0. -1 (n above 100); -14").each("row(0, 0, #)", "101 MAX", -1)
             .each("row(0, 2, #)", "-1 MIN", -14).each("row(0, #, 1)", "-1 3 MIN MAX", -1)
             .each("row(#, 0, 1)", NO_NUMBERS, -1).each("row(0, #, -1)", "-1 3", -1)
-            .each("row(#, 0, -1)", NO_NUMBERS, -1).due("judge(0)", -11).each("row(0, 1, #)", "0 100", 0).due("put(0, 99, 5)", 0).due("row(0, 1, -1)", -14)
+            .each("row(#, 0, -1)", NO_NUMBERS, -1).due("judge(0)", -11).each("row(0, 1, #)", "0 100", 0)
+            .due("put(0, 99, 5)", 0).due("row(0, 1, -1)", -14)
             .due("row(0, 1, 101)", -1).due("element(0, 99)", 5).due("keep(7, 1, 0)", 0).due("row(7, 2, -1)", -14)
             .due("faith(7)", 10).due("row(7, 2, 0)", 0).due("faith(7)", FAR - 12);
     }
