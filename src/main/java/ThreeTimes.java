@@ -28,6 +28,7 @@ public final class ThreeTimes {
     private static final int MOST_IN_MIND = 20;
     private static final int MOST_FIGURE = 20;
     private static final int HUNDRED = 100;
+    private static final int ALL_BUT_SIGN = 0x7fffffff;
 
     private static final int SENDING = 0;
     private static final int RECKONED = 1;
@@ -838,7 +839,7 @@ public final class ThreeTimes {
 
         private int draw() {
             z = z * 1103515245 + 12345;
-            return ((z & Integer.MAX_VALUE) / 65536) % HUNDRED;
+            return ((z & ALL_BUT_SIGN) / 65536) % HUNDRED;
         }
 
         private int sendNow() {
@@ -991,7 +992,7 @@ public final class ThreeTimes {
             if (sort == BYTES) {
                 return -128;
             }
-            return sort == SHORTS ? -32768 : Integer.MIN_VALUE;
+            return sort == SHORTS ? -32768 : -2147483648;
         }
 
         private boolean isOfSendings(int coins) {
